@@ -247,23 +247,20 @@ public final class LiarTents {
 
     // ---- telling and agreeing
 
+    /** Attack is 1 and wait is 0, so that ATTACK - order is the order turned round. */
     private static int said(int kind, int from, int to, int order) {
         switch (kind) {
             case TURNS_FOR_ODD:
-                return (to & 1) == 1 ? turned(order) : order;
+                return (to & 1) == 1 ? ATTACK - order : order;
             case SPEAKS_BY_NUMBER:
                 return to < from ? WAIT : ATTACK;
             case SILENT:
                 return WAIT;
             case TURNS_ALL:
-                return turned(order);
+                return ATTACK - order;
             default:
                 return order;
         }
-    }
-
-    private static int turned(int order) {
-        return order == ATTACK ? WAIT : ATTACK;
     }
 
     private boolean hearsLie(int from, int to) {

@@ -80,6 +80,9 @@ public final class CouncilTest {
         held("P5 two liars of four", Check.camp(0, 0, 4, 4), 2, 0, 1, "1000");
         // More rounds than there are generals to retell.
         held("P5 two liars of four", Check.camp(0, 0, 4, 4), 3, 0, 1, "1000");
+        held("P5 a silent one of five", Check.camp(3, 0, 0, 0, 0), 2, 1, 1, "11111");
+        // By 3 rounds two are left with the silent one alone: its wait makes ties at every depth.
+        held("P5 a silent one of five", Check.camp(3, 0, 0, 0, 0), 3, 1, 1, "11000");
         held("P5 two silent of seven", Check.camp(0, 3, 3, 0, 0, 0, 0), 2, 0, 1, "1111111");
         held("P5 the silent commander", Check.camp(0, 3, 3, 0, 0, 0, 0), 2, 1, 1, "0100000");
         held("P5 kind 2 retells", Check.camp(0, 0, 2), 1, 0, 1, "101");
@@ -178,6 +181,9 @@ public final class CouncilTest {
         Check.same("P7 0 rounds, of the commander", camp.took(3, 0), 1);
         Check.same("P7 0 rounds, of others", camp.took(3, 1), -1);
         Check.same("P7 0 rounds, of itself", camp.took(3, 3), -1);
+        camp.hold(3, 0);
+        Check.same("P7 0 rounds behind others, 0 of 1", camp.took(0, 1), -1);
+        Check.same("P7 0 rounds behind others, 1 of 0", camp.took(1, 0), -1);
         // By 2 rounds general 1 takes of 3 by the agreement of 1 to 4 that 3 commands: it hears
         // attack of 3, but wait of 2, which turned it, and of 4, which said nothing.
         LiarTents five = Check.camp(0, 0, 4, 0, 3);
@@ -195,6 +201,7 @@ public final class CouncilTest {
     private static void promise07TookRefuses() {
         LiarTents camp = Check.camp(0, 0);
         Check.refused("P7 no council", STATE, () -> camp.took(0, 1));
+        Check.refused("P7 no council, nobody commanded", STATE, () -> camp.took(1, 0));
         Check.refused("P7 no council, the same", STATE, () -> camp.took(0, 0));
         Check.refused("P7 no council, no first general", BOUNDS, () -> camp.took(2, 0));
         Check.refused("P7 no council, no second general", BOUNDS, () -> camp.took(0, 2));

@@ -134,6 +134,7 @@ public final class ForesightTest {
         Check.same("P14 liars alone", Check.camp(1, 2, 3, 4).needs(), 0);
         Check.same("P14 a liar that splits four", Check.camp(1, 0, 0, 0).needs(), 1);
         Check.same("P14 a liar that splits five", Check.camp(0, 2, 0, 0, 0).needs(), 1);
+        Check.same("P14 by 1 with each attack, but not with each wait", Check.camp(2, 1, 0, 0).needs(), -1);
         Check.same("P14 by none", Check.camp(1, 0, 0).needs(), -1);
         Check.same("P14 two liars that split five", Check.camp(0, 2, 1, 1, 0).needs(), 2);
         Check.same("P14 two liars that split seven", Check.camp(1, 1, 0, 0, 0, 0, 0).needs(), 2);
