@@ -1,3 +1,5 @@
+import java.util.Arrays;
+
 /** All promises: long runs of calls, with arguments in and just outside their bounds, beside the model. */
 public final class ModelTest {
     private static final int RUNS = 120;
@@ -10,7 +12,12 @@ public final class ModelTest {
     private static long row = 20261119;
 
     public static void main(String[] args) {
-        everyCampOfFour();
+        for (int code = 0; code < 625; code++) {
+            int[] kinds = {code % 5, code / 5 % 5, code / 25 % 5, code / 125};
+            for (int rounds = 0; rounds <= 3; rounds++) {
+                everyCouncilOfFour(rounds, kinds);
+            }
+        }
         for (int run = 0; run < RUNS; run++) {
             longRun(run);
         }
@@ -41,10 +48,11 @@ public final class ModelTest {
             camp.come();
             model.come();
         }
-        for (int call = camp.count(0) + 1; call < CALLS; call++) {
+        for (int call = model.count(0) + 1; call <= CALLS; call++) {
             int method = WEIGHTED[next(WEIGHTED.length)];
-            int newest = camp.count(0) - 1;
-            int second = method == 1 ? near(4) : method == 7 ? near(3) : method == 5 || method == 8 ? near(newest) : near(1);
+            int newest = model.count(0) - 1;
+            int second = method == 1 ? near(4) : method == 7 ? near(3)
+                : method == 5 || method == 8 ? near(newest) : near(1);
             int first = method == 2 || method == 11 ? near(3) : method == 6 ? near(8) : near(newest);
             int third = method == 9 ? near(newest) : near(1);
             String got = Check.outcome(() -> ofCamp(camp, method, first, second, third));
@@ -54,24 +62,22 @@ public final class ModelTest {
         }
     }
 
-    /** Every camp of four generals, by all rounds, with each commander and order. */
-    private static void everyCampOfFour() {
-        for (int code = 0; code < 625; code++) {
-            LiarTents camp = Check.camp(code % 5, code / 5 % 5, code / 25 % 5, code / 125);
-            Model model = new Model();
-            for (int general = 0; general < 4; general++) {
-                model.setKind(model.come(), camp.told(general, 0));
-            }
-            Check.same("camp " + code + ", needs", camp.needs(), model.needs());
-            for (int plan = 0; plan < 32; plan++) {
-                camp.setRounds(plan / 8);
-                model.setRounds(plan / 8);
-                int attacks = camp.hold(plan / 2 % 4, plan % 2);
-                Check.same("camp " + code + ", plan " + plan, attacks, model.hold(plan / 2 % 4, plan % 2));
-                Check.same("camp " + code + ", plan " + plan + ", took", allTook(camp), allTook(model));
-            }
-            Check.same("camp " + code + ", digest", camp.digest(), model.digest());
+    /** The councils of a camp of four, with each commander and order. */
+    private static void everyCouncilOfFour(int rounds, int... kinds) {
+        String name = "camp " + Arrays.toString(kinds) + " by " + rounds;
+        LiarTents camp = Check.campBy(rounds, kinds);
+        Model model = new Model();
+        for (int kind : kinds) {
+            model.setKind(model.come(), kind);
         }
+        model.setRounds(rounds);
+        Check.same(name + ", needs", camp.needs(), model.needs());
+        for (int plan = 0; plan < 8; plan++) {
+            int attacks = camp.hold(plan / 2, plan % 2);
+            Check.same(name + ", plan " + plan, attacks, model.hold(plan / 2, plan % 2));
+            Check.same(name + ", plan " + plan + ", took", allTook(camp), allTook(model));
+        }
+        Check.same(name + ", digest", camp.digest(), model.digest());
     }
 
     private static String allTook(LiarTents camp) {
